@@ -241,7 +241,7 @@ public final class WashLine {
         if (rows[r].size != THINGS) {
             return finds(SIZE);
         }
-        if (!rows[r].isWithin(HUNG)) {
+        if (!rows[r].holdsUpTo(HUNG)) {
             return finds(UNLIKE);
         }
         if (line.size >= MONDAYS) {
@@ -675,7 +675,7 @@ public final class WashLine {
             return sum;
         }
 
-        boolean isWithin(int most) {
+        boolean holdsUpTo(int most) {
             for (int i = 0; i < size; i++) {
                 if (places[i] < 0 || places[i] > most) {
                     return false;
@@ -1039,11 +1039,11 @@ public final class WashLine {
         }
 
         private boolean agrees(int m, int h) {
-            return agrees(m, h, 0, 0, 0);
+            return agreesWith(m, h, 0, 0, 0);
         }
 
         /** Whether it AGREES with what lows, highs of a SORT hang at least, at most besides. */
-        private boolean agrees(int m, int h, int s, int lows, int highs) {
+        private boolean agreesWith(int m, int h, int s, int lows, int highs) {
             for (int x = 0; x < THINGS; x++) {
                 int high = houses.most[h * THINGS + x] + highs * land.most[s * THINGS + x];
                 int low = houses.least[h * THINGS + x] + lows * land.least[s * THINGS + x];
@@ -1054,22 +1054,21 @@ public final class WashLine {
             return true;
         }
 
-        /** How a HOUSEHOLD is EXPLAINED at the least PRICE, or NONE. */
+        /**
+         * How a HOUSEHOLD is EXPLAINED at the least PRICE, or NONE. Never both by ILL and by a GUEST: who
+         * HANGS too much at least does so with a GUEST, too, and who HANGS too little at most, with one ILL.
+         */
         int explain(int m, int h) {
             if (agrees(m, h)) {
                 return BY_ITSELF;
             }
-            if (land.prices[PRICE_ILL] <= land.prices[PRICE_GUEST]) {
-                int ill = explainIll(m, h);
-                return ill == NONE ? explainGuest(m, h) : ill;
-            }
-            int guest = explainGuest(m, h);
-            return guest == NONE ? explainIll(m, h) : guest;
+            int ill = explainIll(m, h);
+            return ill == NONE ? explainGuest(m, h) : ill;
         }
 
         private int explainIll(int m, int h) {
             for (int s = 0; s < land.sorts; s++) {
-                if (houses.people[h * SORTS + s] > 0 && agrees(m, h, s, -1, 0)) {
+                if (houses.people[h * SORTS + s] > 0 && agreesWith(m, h, s, -1, 0)) {
                     return BY_ILL + s;
                 }
             }
@@ -1078,7 +1077,7 @@ public final class WashLine {
 
         private int explainGuest(int m, int h) {
             for (int s = 0; s < land.sorts; s++) {
-                if (agrees(m, h, s, 1, 1)) {
+                if (agreesWith(m, h, s, 1, 1)) {
                     return BY_GUEST + s;
                 }
             }
@@ -1685,14 +1684,14 @@ public final class WashLine {
         /** The first MONDAY on which the TOLD household does not agree, or that is BROKEN; NONE: none. */
         int firstOff() {
             for (int m = 0; m < line.size; m++) {
-                if (!agrees(m)) {
+                if (!isAgreed(m)) {
                     return m;
                 }
             }
             return NONE;
         }
 
-        private boolean agrees(int m) {
+        private boolean isAgreed(int m) {
             offThing = NONE;
             if (!live(m)) {
                 return false;
