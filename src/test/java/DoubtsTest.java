@@ -45,6 +45,11 @@ public final class DoubtsTest {
         w.hung(0, 0, 0);
         w.hung(1, 0, 1);
         Check.due(w, "40 nobody", w.least(), 0, 1);
+        w = Check.world("k-w0t0:1-1");
+        Check.monday(w, 0, 0, 1);
+        Check.due(w, "40 one", w.least(), 1, 0);
+        w.hung(0, 0, 2);
+        Check.due(w, "40 two", w.least(), 2, 0);
         w = new WashLine();
         Check.monday(w, 0, 0, 1, 2, 3);
         Check.due(w, "40 no SORT", w.least(), 0, 6);

@@ -16,6 +16,7 @@ public final class HappeningsTest {
         guests();
         ill();
         handed();
+        toldFirst();
         handedByMondays();
         rain();
         Check.end();
@@ -333,6 +334,28 @@ public final class HappeningsTest {
         Check.due("38 handed on", w.judge(), NONE);
         w.happen(3, HANDED, 0, 1);
         Check.due("38 not yet", w.judge(), NONE);
+    }
+
+    private static void toldFirst() {
+        WashLine w = Check.world("k-w0t0:1-1");
+        w.happen(0, GUEST, 0, 0);
+        Check.monday(w, 0, 0, 1);
+        Check.due("38 a GUEST told first", w.judge(), NONE);
+        w = Check.world("k-w0t0:1-1");
+        w.happen(0, ILL, 0, 0);
+        w.happen(0, COME, 0, 0);
+        Check.monday(w, 0, 0);
+        Check.due("38 an ILL one told first", w.judge(), NONE);
+        w = Check.world("k-w0t0:1-1");
+        w.happen(0, HANDED, 0, 1);
+        w.happen(0, COME, 0, 0);
+        Check.monday(w, 0, 0, 0, 1);
+        Check.due("38 a HANDED one told first", w.judge(), NONE);
+        w.hung(0, 0, 1);
+        Check.due(w, "38 none is left", w.judge(), 0, 0);
+        w.world(3);
+        Check.monday(w, 0, 0);
+        Check.due("38 HANDED ones go with the WORLD", w.judge(), NONE);
     }
 
     /** In the order of the MONDAYS, those of one MONDAY as told. */

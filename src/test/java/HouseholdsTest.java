@@ -14,6 +14,7 @@ public final class HouseholdsTest {
         many();
         step();
         stepInRings();
+        stepInOtherWorlds();
         Check.end();
     }
 
@@ -204,6 +205,15 @@ public final class HouseholdsTest {
         Check.due("24 bound(8)", w.bound(8), -1);
         Check.due("24 bound(-1)", w.bound(-1), -1);
         Check.due("24 asked stays", w.asked(), 0);
+        w = Check.world("k-k-w0t0:1-3w0t1:0-4w1t0:1-2");
+        Check.monday(w, 0, 0, 3);
+        Check.due("24 the most of the first SORT", w.bound(0), 1);
+        Check.monday(w, 0, 0, 0, 8);
+        Check.due("24 the most of the first SORT", w.bound(1), 2);
+        Check.monday(w, 0, 0, 1);
+        Check.due("24 one hung", w.bound(2), 1);
+        Check.monday(w, 0, 0, 3, 9);
+        Check.due("24 the greatest", w.bound(3), 3);
         w = new WashLine();
         Check.monday(w, 0, 0);
         Check.due("24 no SORT", w.bound(0), 0);
@@ -262,6 +272,21 @@ public final class HouseholdsTest {
         w = new WashLine();
         Check.due("26 no SORT", w.step(0, 0), 0);
         Check.due("26 no SORT", w.step(0, 1), -1);
+    }
+
+    /** The same object with ever more HOUSEHOLDS, then with fewer. */
+    private static void stepInOtherWorlds() {
+        WashLine w = new WashLine();
+        String[] worlds = {"k-", "k-k1", "k-k-k-k-", "k-k-k-k-k-k-c45678", "k-k-"};
+        int[] houses = {5, 50, 5000, 500000, 50};
+        int[] due = {30, 30, 30, 45, 30};
+        for (int i = 0; i < worlds.length; i++) {
+            Check.lay(w, 0, worlds[i]);
+            w.world(0);
+            Check.due("26 step in " + worlds[i], w.step(houses[i], 5), i == 0 ? 0 : due[i]);
+            Check.due("26 step in " + worlds[i], w.step(0, houses[i]), i == 3 ? 20 : 15);
+            Check.due("26 step in " + worlds[i], w.step(houses[i], 0), i == 3 ? 25 : 15);
+        }
     }
 
     private static void stepInRings() {

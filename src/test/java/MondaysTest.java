@@ -53,13 +53,17 @@ public final class MondaysTest {
         Check.finds(w, "16 a number 41", 0, w.monday(0, 0, 0), 3);
         w.lay(0, 7, -1);
         Check.finds(w, "16 a number -1", 1, w.monday(0, 0, 0), 3);
+        w.row(0, 8);
+        w.lay(0, 0, 41);
+        Check.finds(w, "16 a number 41 at first", 2, w.monday(0, 0, 0), 3);
+        w.lay(0, 0, 0);
         Check.due("16 none are there", w.count(1), 0);
         w.lay(0, 7, 40);
         for (int m = 0; m < 12; m++) {
             Check.due("16 monday", w.monday(0, 0, 0), m);
         }
         w.lay(0, 7, 41);
-        Check.finds(w, "16 UNLIKE ahead of FULL", 2, w.monday(0, 0, 0), 3);
+        Check.finds(w, "16 UNLIKE ahead of FULL", 3, w.monday(0, 0, 0), 3);
         w.row(0, 0);
         Check.finds(w, "16 SIZE ahead of FULL", 2, w.monday(0, 0, 0), 5);
         Check.finds(w, "16 NOTHING ahead of FULL", 1, w.monday(0, 1, 0), 1);

@@ -16,11 +16,15 @@ public final class TalesTest {
         share();
         through();
         rival();
+        firstQuestion();
         changes();
         Check.end();
     }
 
     private static void withoutMondays() {
+        Check.due("29 ways of a new object", new WashLine().ways(), 1);
+        Check.due("27 plain of a new object", new WashLine().plain(), 0);
+        Check.due("28 tale of a new object", new WashLine().tale(5), 0);
         WashLine w = Check.world("k-");
         Check.due("27 plain", w.plain(), 0);
         Check.due("28 tale", w.tale(0), 0);
@@ -357,6 +361,38 @@ public final class TalesTest {
         Check.due("27 plain", w.plain(), 17);
         Check.due("33 none", w.rival(0), NONE);
         Check.due("33 asked stays", w.asked(), 5);
+    }
+
+    /** Each question is the first behind a change once. */
+    private static void firstQuestion() {
+        for (int question = 0; question < 8; question++) {
+            WashLine w = Check.world("k-w0t0:1-1");
+            Check.monday(w, 0, 0, 0);
+            Check.due("27 plain", w.plain(), 0);
+            w.ways();
+            w.hung(0, 0, 3);
+            w.price(4, 3);
+            String told = "question " + question;
+            if (question == 0) {
+                Check.due(told, w.plain(), 9);
+            } else if (question == 1) {
+                w.tale(0);
+                Check.due(w, told, w.at(0, 0), 1, 2);
+            } else if (question == 2) {
+                w.ways();
+                Check.due(told, w.tales(), 2);
+            } else if (question == 3) {
+                Check.due(w, told, w.sure(0, 0), 2, 3);
+            } else if (question == 4) {
+                fraction(w, 0, 0, 3, 1, 2);
+            } else if (question == 5) {
+                Check.due(told, w.through(0, 4), 14);
+            } else if (question == 6) {
+                Check.due(w, told, w.rival(0), 9, 3);
+            } else {
+                Check.due(w, told, w.see(0), 0, 1);
+            }
+        }
     }
 
     /** What was worked out is not kept when something changes. */

@@ -164,6 +164,14 @@ public final class ToldTest {
         Check.due("46 count(-1)", w.count(-1), -1);
         w.tear(0);
         Check.due("46 count(4)", w.count(4), 3);
+        w = Check.world("k-");
+        w.happen(0, 1, 0, 0);
+        w.happen(0, 5, 0, 0);
+        Check.due("46 COMES from the first on", w.count(3), 2);
+        w.world(3);
+        Check.due("46 COMES anew", w.count(3), 0);
+        Check.due("46 HAPPENINGS anew", w.count(2), 0);
+        Check.due("37 household anew", w.household(0), 0);
     }
 
     private static void findings() {
