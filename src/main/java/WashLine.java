@@ -46,7 +46,6 @@ public final class WashLine {
     private final Strip[] rows = new Strip[ROWS];
     private final Strip[] texts = new Strip[TEXTS];
     private final World land = new World();
-    private final World draft = new World();
     private final Reader reader = new Reader();
     private final Houses houses = new Houses(land);
     private final Line line = new Line();
@@ -181,7 +180,7 @@ public final class WashLine {
         if (texts[t].isMissing()) {
             return finds(NOTHING);
         }
-        return reader.read(texts[t], draft);
+        return reader.read(texts[t]);
     }
 
     public int world(int t) {
@@ -191,10 +190,10 @@ public final class WashLine {
         if (texts[t].isMissing()) {
             return finds(NOTHING);
         }
-        if (reader.read(texts[t], draft) != NONE) {
+        if (reader.read(texts[t]) != NONE) {
             return STATE;
         }
-        land.take(draft);
+        land.take(reader.target);
         houses.build();
         line.size = 0;
         story.size = 0;
@@ -763,13 +762,13 @@ public final class WashLine {
     private static final class Reader {
         private static final int END = 1000;
         private Strip source = new Strip(0);
-        private World target = new World();
         private int place;
+        /** What was read last: a WORLD, if there was no FAULT. */
+        final World target = new World();
 
-        /** The FAULT, or NONE; only then is the WORLD whole. */
-        int read(Strip from, World into) {
+        /** The FAULT, or NONE. */
+        int read(Strip from) {
             source = from;
-            target = into;
             place = 0;
             target.clear();
             boolean good = true;
@@ -1276,7 +1275,9 @@ public final class WashLine {
             for (int round = 0; changed && round < GROWING_ROUNDS; round++) {
                 changed = false;
                 for (int h = 0; h < houses.size; h++) {
-                    changed |= growOne(costs, h);
+                    if (growOne(costs, h)) {
+                        changed = true;
+                    }
                 }
             }
         }
@@ -1300,8 +1301,10 @@ public final class WashLine {
                 changed = false;
                 for (int h = houses.size - 1; h >= 0; h--) {
                     int least = leastOf(costs, houses.older, h, price);
-                    changed |= least < costs[h];
-                    costs[h] = least;
+                    if (least < costs[h]) {
+                        costs[h] = least;
+                        changed = true;
+                    }
                 }
             }
         }
@@ -1475,7 +1478,7 @@ public final class WashLine {
             return n;
         }
 
-        /** Counts PLAIN TALES, when they are weighed. */
+        /** Counts PLAIN TALES, when they are weighed; the ways that come somewhere only of so few as are told. */
         void countWays() {
             if (counted) {
                 return;
@@ -1483,9 +1486,6 @@ public final class WashLine {
             counted = true;
             total = isTold() ? 1 : 0;
             if (isTold() && line.size > 0) {
-                for (int m = 0; m < line.size; m++) {
-                    countTo(m);
-                }
                 for (int m = line.size - 1; m >= 0; m--) {
                     countOn(m);
                 }
@@ -1493,21 +1493,9 @@ public final class WashLine {
                 for (int i = 0; i < lists[0]; i++) {
                     total = capped(total + waysOn[listed[i]]);
                 }
-            }
-        }
-
-        private void countTo(int m) {
-            for (int i = 0; i < lists[m]; i++) {
-                int h = listed[m * HOUSES + i];
-                steps.know(h);
-                long sum = m == 0 ? 1 : 0;
-                for (int j = 0; m > 0 && j < lists[m - 1]; j++) {
-                    int from = listed[(m - 1) * HOUSES + j];
-                    if (follows(m - 1, from, h)) {
-                        sum = capped(sum + waysTo[(m - 1) * HOUSES + from]);
-                    }
+                for (int m = 0; m < line.size && total <= MOST_TALES; m++) {
+                    countTo(m);
                 }
-                waysTo[m * HOUSES + h] = sum;
             }
         }
 
@@ -1516,6 +1504,7 @@ public final class WashLine {
             for (int i = 0; i < lists[m]; i++) {
                 int h = listed[m * HOUSES + i];
                 long sum = isLast ? 1 : 0;
+                steps.know(h);
                 for (int j = 0; !isLast && j < lists[m + 1]; j++) {
                     int to = listed[(m + 1) * HOUSES + j];
                     if (follows(m, h, to)) {
@@ -1523,6 +1512,20 @@ public final class WashLine {
                     }
                 }
                 waysOn[m * HOUSES + h] = sum;
+            }
+        }
+
+        private void countTo(int m) {
+            for (int i = 0; i < lists[m]; i++) {
+                int h = listed[m * HOUSES + i];
+                long sum = m == 0 ? 1 : 0;
+                for (int j = 0; m > 0 && j < lists[m - 1]; j++) {
+                    int from = listed[(m - 1) * HOUSES + j];
+                    if (follows(m - 1, from, h)) {
+                        sum = capped(sum + waysTo[(m - 1) * HOUSES + from]);
+                    }
+                }
+                waysTo[m * HOUSES + h] = sum;
             }
         }
 
