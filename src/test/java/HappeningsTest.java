@@ -356,6 +356,13 @@ public final class HappeningsTest {
         w.world(3);
         Check.monday(w, 0, 0);
         Check.due("38 HANDED ones go with the WORLD", w.judge(), NONE);
+        w.happen(0, COME, 0, 0);
+        w.happen(0, GUEST, 0, 0);
+        w.happen(0, GUEST, 0, 0);
+        w.world(3);
+        w.happen(0, COME, 0, 0);
+        Check.monday(w, 0, 0, 1);
+        Check.due("38 GUESTS go with the WORLD", w.judge(), NONE);
     }
 
     /** In the order of the MONDAYS, those of one MONDAY as told. */

@@ -154,7 +154,11 @@ public final class HouseholdsTest {
         Check.monday(w, 1, 0, 1, 2, 1, 0, 0, 0, 0, 10);
         Check.due(w, "22 RAIN", w.lacks(2, 11), 0, 2 | 4 | 128);
         Check.due(w, "22 lacks(3)", w.lacks(3, 11), -1, 2 | 4 | 128);
-        Check.due(w, "22 lacks(-1)", w.lacks(-1, 11), -1, 2 | 4 | 128);
+        Check.monday(w, 0, 0);
+        Check.monday(w, 0, 0, 40);
+        Check.due(w, "22 eight THINGS alone", w.lacks(3, 0), 0, 0);
+        Check.due(w, "22 all too much", w.lacks(4, 0), 0, 1);
+        Check.due(w, "22 lacks(-1)", w.lacks(-1, 11), -1, 1);
     }
 
     private static void fewest() {
@@ -214,6 +218,8 @@ public final class HouseholdsTest {
         Check.due("24 one hung", w.bound(2), 1);
         Check.monday(w, 0, 0, 3, 9);
         Check.due("24 the greatest", w.bound(3), 3);
+        Check.monday(w, 0, 0, 40);
+        Check.due("24 of that MONDAY alone", w.bound(3), 3);
         w = new WashLine();
         Check.monday(w, 0, 0);
         Check.due("24 no SORT", w.bound(0), 0);

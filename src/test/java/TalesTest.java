@@ -8,6 +8,7 @@ public final class TalesTest {
         oneMonday();
         twoMondays();
         growing();
+        growingDown();
         firstTale();
         tale();
         ways();
@@ -120,6 +121,21 @@ public final class TalesTest {
         }
         Check.due("32 through", w.through(1, 20), 10);
         Check.due("32 through", w.through(3, 200), 10);
+    }
+
+    /** The last SORT grows into the one ahead of it, and that into the first. */
+    private static void growingDown() {
+        WashLine w = Check.world("k-k0k1w0t0:1-1w1t1:1-1w2t2:1-1c44188");
+        Check.monday(w, 0, 0, 0, 0, 3);
+        Check.monday(w, 0, 0, 3);
+        Check.due("27 plain", w.plain(), 12 + 6);
+        Check.due("28 tale", w.tale(0), 2);
+        Check.due(w, "28 at", w.at(0, 0), 1, 300);
+        Check.due(w, "28 at", w.at(0, 1), 1, 3);
+        w.ways();
+        Check.due("29 tales", w.tales(), 1);
+        Check.due("32 through", w.through(0, 300), 18);
+        Check.due("32 through", w.through(1, 3), 18);
     }
 
     /** Of alike TALES the first differs from the others on the first MONDAY already. */
