@@ -29,8 +29,50 @@ final class Check {
         due(call + ", then findings(" + kind + ")", w.findings(kind), before + 1);
     }
 
+    /** A call that is made only when it is looked at. */
+    interface Call {
+        long answer();
+    }
+
+    /** All that an object tells of itself, what it found last from place 5 on. */
+    private static long[] all(WashLine w) {
+        long[] all = {w.digest(), w.asked(), w.tales(), w.upper(), w.lower(), w.finding(), 0, 0, 0, 0, 0};
+        for (int f = 1; f <= 5; f++) {
+            all[5 + f] = w.findings(f);
+        }
+        return all;
+    }
+
+    private static void stays(WashLine w, String call, long[] due) {
+        String[] names = {"digest", "asked", "tales", "upper", "lower", "finding"};
+        long[] got = all(w);
+        for (int i = 0; i < due.length; i++) {
+            due(call + ", then " + (i < 6 ? names[i] + "()" : "findings(" + (i - 5) + ")"), got[i], due[i]);
+        }
+    }
+
+    /** Refused, or NONE: answered so, and nothing is told otherwise than before. */
+    static void refused(WashLine w, String name, int answer, Call call) {
+        long[] due = all(w);
+        due(name, call.answer(), answer);
+        stays(w, name, due);
+    }
+
+    /** FINDING: that one is told and counted once more, and nothing else is told otherwise than before. */
+    static void finds(WashLine w, String name, int kind, Call call) {
+        long[] due = all(w);
+        due[5] = kind;
+        due[5 + kind]++;
+        due(name, call.answer(), WashLine.FINDING);
+        stays(w, name, due);
+    }
+
     static void holds(String what, boolean good) {
         due(what, good ? 1 : 0, 1);
+    }
+
+    static int wrong() {
+        return wrong;
     }
 
     static void end() {
@@ -57,6 +99,19 @@ final class Check {
         }
         due("world of \"" + text + "\"", w.world(3), sorts);
         return w;
+    }
+
+    static void row(WashLine w, int r, int... places) {
+        w.row(r, places.length);
+        for (int i = 0; i < places.length; i++) {
+            w.lay(r, i, places[i]);
+        }
+    }
+
+    static void holdsRow(WashLine w, String name, int r, int... places) {
+        for (int i = 0; i < places.length; i++) {
+            due(w, name + ", then at(" + r + ", " + i + ")", w.at(r, i), 1, places[i]);
+        }
     }
 
     /** A MONDAY by ROW 5: things not told hung none. */

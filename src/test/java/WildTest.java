@@ -38,7 +38,7 @@ public final class WildTest {
             }
         }
         long h = run;
-        for (int i = 0; i < 400; i++) {
+        for (int i = 0; i < 340; i++) {
             h = 31 * h + call(w, draw(48), odd(), odd(), odd());
         }
         return 31 * h + w.digest();
