@@ -42,6 +42,11 @@ public final class EdgesOfDoubtsTest {
         w.back(1);
         Check.monday(w, 0, 0, 1);
         Check.due(w, "one of one SORT on the last MONDAY, by what hung", w.see(0), 0, 0);
+        WashLine fewer = Check.world("k-w0t7:1-1c00000");
+        Check.monday(fewer, 0, 9);
+        Check.due(fewer, "nobody to five", fewer.see(0), 7, 15);
+        fewer.price(0, 9);
+        Check.due(fewer, "nobody any more", fewer.see(0), 0, 0);
     }
 
     @Says("a THING parts two in a WEATHER, if the most of one is below the least of the other.")

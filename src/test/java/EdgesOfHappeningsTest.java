@@ -648,6 +648,10 @@ public final class EdgesOfHappeningsTest {
         }
         w.back(0);
         agrees(w, "of none that are not there");
+        WashLine six = Check.world("k-k-k-k-k-k-w5t0:1-1");
+        six.happen(0, COME, 5, 0);
+        Check.monday(six, 0, 0, 1);
+        agrees(six, "one of the last of six SORTS");
     }
 
     @Says(promise = 38, value = "or that is BROKEN")

@@ -97,6 +97,13 @@ public final class EdgesOfHouseholdsTest {
         Check.due("lacks dry", w.lacks(1, 2), 1 | 128);
         Check.due("explained in RAIN", w.explains(0, 2), 0);
         Check.due("explained dry", w.explains(1, 2), NONE);
+        w.hung(0, 0, 6);
+        w.hung(0, 7, 6);
+        Check.due(w, "in RAIN at most as ever", w.explains(0, 2), 0, 0);
+        Check.due(w, "in RAIN at most as ever", w.lacks(0, 2), 0, 0);
+        w.hung(0, 0, 7);
+        Check.refused(w, "in RAIN no more than ever", NONE, () -> w.explains(0, 2));
+        Check.due(w, "in RAIN no more than ever", w.lacks(0, 2), 0, 1);
     }
 
     @Says("what hung less DOUBT is no more than it HANGS at most")
@@ -385,7 +392,7 @@ public final class EdgesOfHouseholdsTest {
             w.hung(0, x, 2);
         }
         Check.due(w, "none", w.lacks(0, 1), 0, 0);
-        Check.due("none, an ILL one is not looked at", w.lacks(0, 2), 255);
+        Check.due("an ILL one is not looked at", w.lacks(0, 2), 255);
     }
 
     @Says(promise = 22, value = "(DOUBT looked at)")
@@ -413,6 +420,8 @@ public final class EdgesOfHouseholdsTest {
         }
         Check.due(w, "none", w.lacks(0, 1), 0, 0);
         Check.due(w, "nobody", w.lacks(0, 0), 0, 129);
+        Check.monday(w, 0, 0, 40);
+        Check.due(w, "of that MONDAY alone", w.lacks(0, 1), 0, 0);
     }
 
     @Says(promise = 22, value = "BAD.")
@@ -437,6 +446,12 @@ public final class EdgesOfHouseholdsTest {
             w.hung(0, 0, n);
             Check.due(w, "fewest people for " + n, w.fewest(0), due[n], due[n]);
         }
+        WashLine all = house("k-w0t0:0-8", 0, 0);
+        Check.due(all, "nobody, and each other one", all.fewest(0), 0, 0);
+        all.hung(0, 0, 8);
+        Check.due(all, "one, and each with more", all.fewest(0), 1, 1);
+        all.hung(0, 0, 9);
+        Check.due(all, "two, and each with more", all.fewest(0), 2, 2);
         w.hung(0, 0, 11);
         Check.refused(w, "a sixth, or a GUEST, is not looked at", NONE, () -> w.fewest(0));
     }
@@ -461,6 +476,11 @@ public final class EdgesOfHouseholdsTest {
         w.hung(0, 0, 1);
         w.hung(0, 7, 1);
         Check.refused(w, "what none hangs", NONE, () -> w.fewest(0));
+        WashLine anew = Check.world("k-k-w0t0:1-1w1t7:1-1");
+        Check.lay(anew, 0, "k-w0t0:1-1");
+        anew.world(0);
+        Check.monday(anew, 0, 0, 0, 0, 0, 0, 0, 0, 0, 1);
+        Check.refused(anew, "HOUSEHOLDS of the WORLD before are none", NONE, () -> anew.fewest(0));
     }
 
     @Says(promise = 23, value = "BAD.")
@@ -508,6 +528,8 @@ public final class EdgesOfHouseholdsTest {
         Check.due("of a middle one", w.bound(0), 4);
         w.hung(0, 7, 5);
         Check.due("of the last", w.bound(0), 5);
+        Check.monday(w, 0, 0, 40);
+        Check.due("of that MONDAY alone", w.bound(0), 5);
     }
 
     @Says(promise = 24, value = "NONE: a THING that hung (DOUBT looked at) none hangs.")
@@ -586,6 +608,14 @@ public final class EdgesOfHouseholdsTest {
         Check.due("five to nobody", w.step(50, 0), 45);
         Check.due("five to five others, GROWN", w.step(5, 50), 45);
         Check.due("five to five others, GONE and COME", w.step(50, 5), 90);
+        int house = 5;
+        for (int sorts = 1; sorts <= 6; sorts++) {
+            Check.lay(w, 0, "k-".repeat(sorts) + "c98765");
+            w.world(0);
+            Check.due("nobody to five, " + sorts + " SORTS", w.step(0, house), 45);
+            Check.due("five to nobody, " + sorts + " SORTS", w.step(house, 0), 40);
+            house *= 10;
+        }
     }
 
     @Says(promise = 26, value = "(perhaps itself: 0)")

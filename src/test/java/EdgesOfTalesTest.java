@@ -190,6 +190,10 @@ public final class EdgesOfTalesTest {
     static void waysOfOneAndMore() {
         WashLine w = winter("k-w0t0:1-1c33199", 1);
         tales(w, "one", 1);
+        for (int m = 1; m < 12; m++) {
+            Check.monday(w, 0, 0, m % 6);
+            tales(w, "one on " + (m + 1) + " MONDAYS", 1);
+        }
         WashLine many = Check.world("k-k-k-k-k-k-c00000");
         long due = 1;
         for (int m = 0; m < 5; m++) {
@@ -308,6 +312,10 @@ public final class EdgesOfTalesTest {
         fraction(w, "two of six", 1, 1, 3);
         fraction(w, "one of six", 2, 1, 6);
         fraction(w, "none of six", 3, 0, 1);
+        WashLine late = winter("k-k-w0t0:1-1w1t0:1-1c33199", 0, 0, 0, 0, 0, 0, 0, 0, 0, 0, 0, 1);
+        Check.due("share on the last MONDAY", late.share(11, 0, 1), 1);
+        Check.due("upper(), one of two", late.upper(), 1);
+        Check.due("lower(), one of two", late.lower(), 2);
         WashLine most = tenToTheFifteenth();
         // One of the first SORT: 14 of 50.
         Check.due("share of 10^15", most.share(0, 0, 1), 1);
@@ -372,6 +380,15 @@ public final class EdgesOfTalesTest {
         Check.due("five come and go", dear.through(0, 5), 90);
         Check.due("five others come and go", dear.through(0, 50), 90);
         Check.due("four and a GUEST", dear.through(0, 40), 81);
+        for (int m = 2; m < 12; m++) {
+            Check.monday(dear, 0, 0);
+        }
+        Check.due("one that is ILL on the last MONDAY", dear.through(11, 1), 99);
+        WashLine down = Check.world("k-k0k1w0t0:1-1w1t1:1-1w2t2:1-1c44199");
+        Check.monday(down, 0, 0, 0, 0, 5);
+        Check.monday(down, 0, 0, 5);
+        Check.due("five GROWN from the last SORT to the first one", down.through(0, 500), 30);
+        Check.due("five GROWN from the last SORT to the first one", down.through(1, 5), 30);
     }
 
     @Says(promise = 32, value = "NONE: there is none.")
@@ -425,6 +442,8 @@ public final class EdgesOfTalesTest {
         WashLine five = winter("k-k-w0t0:1-1w1t0:1-1c33192", 6);
         first(five, "five of the first SORT and a GUEST", 5);
         Check.due(five, "four and one", five.rival(0), 17, 14);
+        WashLine twelve = winter("k-k-w0t0:1-1w1t0:1-1c33199", 0, 0, 0, 0, 0, 0, 0, 0, 0, 0, 0, 1);
+        Check.due(twelve, "on the last MONDAY", twelve.rival(11), 3, 10);
     }
 
     @Says(promise = 33, value = "NONE.")

@@ -272,6 +272,9 @@ public final class EdgesOfWorldsTest {
         fault("k-wxt0:1-2", 3);
         fault("k-w0tx:1-2", 5);
         fault("k-w0t0:x-2", 7);
+        fault("k-wt0:1-2", 3);
+        fault("k-w0t:1-2", 5);
+        fault("k-w0t0:-2", 7);
         fault("k-w0t0:1-x", 9);
         fault("k-ix", 3);
         fault("c1111x", 5);
@@ -365,9 +368,10 @@ public final class EdgesOfWorldsTest {
             Check.monday(w, 0, 0, 1);
         }
         for (int e = 0; e < 16; e++) {
-            w.happen(0, 5, 0, 0);
+            w.happen(0, 5 + e % 2, 0, 1);
         }
         w.plain();
+        Check.due("GROWN", w.step(1, 10), 9);
         Check.lay(w, 0, "k-w0t1:1-1");
         Check.due("world(0)", w.world(0), 1);
         Check.due("MONDAYS", w.count(1), 0);
@@ -383,8 +387,13 @@ public final class EdgesOfWorldsTest {
         Check.due("household(11)", w.household(11), 0);
         Check.due("judge()", w.judge(), NONE);
         Check.due("the first MONDAY anew", Check.monday(w, 0, 0, 0, 1), 0);
+        Check.due(w, "judge(), no GUEST any more", w.judge(), 0, 1);
         Check.due("the first HAPPENING anew", w.happen(0, 0, 0, 0), 0);
+        Check.due(w, "judge(), nothing HANDED any more", w.judge(), 0, 1);
         Check.due("plain()", w.plain(), 2);
+        Check.lay(w, 0, "k-k-");
+        w.world(0);
+        Check.due("GROWN no more", w.step(1, 10), 6);
     }
 
     @Says(promise = 11, value = "how many SORTS.")
