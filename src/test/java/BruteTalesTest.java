@@ -1,21 +1,30 @@
 import java.util.ArrayList;
 import java.util.List;
 
-/** Small worlds in which every TALE is written down, one by one, by step() and explains() alone. */
+/**
+ * Small worlds in which every TALE is written down, one by one, by step() and explains() alone. An object is used for at
+ * most 512 calls: tables are made by objects of their own, all alike.
+ */
 public final class BruteTalesTest {
     private static long seed = 20261119;
 
+    private final String world;
+    private final int[][] hung;
     private final WashLine w;
     private final List<Integer> houses = new ArrayList<>();
     private final int mondays;
+    private final int[][] steps;
+    private final int[][] prices;
     private final int[] tale;
     private int best = Integer.MAX_VALUE;
     private List<int[]> plain = new ArrayList<>();
     /** Of MONDAYS and HOUSEHOLDS the least cost. */
     private final int[][] through;
 
-    private BruteTalesTest(WashLine w) {
-        this.w = w;
+    private BruteTalesTest(String world, int[][] hung) {
+        this.world = world;
+        this.hung = hung;
+        w = made();
         int sorts = w.count(0);
         for (int n = 0; n < Math.pow(10, sorts); n++) {
             if (w.hangs(n, 0, 0) >= 0) {
@@ -23,6 +32,20 @@ public final class BruteTalesTest {
             }
         }
         mondays = w.count(1);
+        steps = new int[houses.size()][houses.size()];
+        for (int h = 0; h < houses.size(); h++) {
+            WashLine each = made();
+            for (int k = 0; k < houses.size(); k++) {
+                steps[h][k] = each.step(houses.get(h), houses.get(k));
+            }
+        }
+        WashLine each = made();
+        prices = new int[mondays][houses.size()];
+        for (int m = 0; m < mondays; m++) {
+            for (int k = 0; k < houses.size(); k++) {
+                prices[m][k] = each.explains(m, houses.get(k));
+            }
+        }
         tale = new int[mondays];
         through = new int[mondays][houses.size()];
         for (int[] row : through) {
@@ -32,14 +55,23 @@ public final class BruteTalesTest {
 
     public static void main(String[] args) {
         for (int run = 0; run < 250; run++) {
-            WashLine w = Check.world(world(1 + draw(2)));
-            int mondays = 1 + draw(3);
-            for (int m = 0; m < mondays; m++) {
-                Check.monday(w, draw(2), draw(4) == 0 ? 1 : 0, draw(6), draw(4), draw(3));
+            String world = drawn(1 + draw(2));
+            int[][] hung = new int[1 + draw(3)][];
+            for (int m = 0; m < hung.length; m++) {
+                hung[m] = new int[] {draw(2), draw(4) == 0 ? 1 : 0, draw(6), draw(4), draw(3)};
             }
-            new BruteTalesTest(w).look(run);
+            new BruteTalesTest(world, hung).look(run);
         }
         Check.end();
+    }
+
+    /** The WORLD with its MONDAYS, anew. */
+    private WashLine made() {
+        WashLine made = Check.world(world);
+        for (int[] each : hung) {
+            Check.monday(made, each[0], each[1], each[2], each[3], each[4]);
+        }
+        return made;
     }
 
     private static int draw(int n) {
@@ -47,7 +79,7 @@ public final class BruteTalesTest {
         return (int) ((seed >>> 33) % n);
     }
 
-    private static String world(int sorts) {
+    private static String drawn(int sorts) {
         StringBuilder b = new StringBuilder(sorts == 1 ? "k-" : draw(2) == 0 ? "k1k-" : "k1k0");
         for (int s = 0; s < sorts; s++) {
             for (int x = 0; x < 3; x++) {
@@ -78,11 +110,10 @@ public final class BruteTalesTest {
             }
             return;
         }
-        for (int house : houses) {
-            int price = w.explains(m, house);
-            if (price >= 0) {
-                tale[m] = house;
-                tell(m + 1, house, cost + w.step(last, house) + price);
+        for (int h = 0; h < houses.size(); h++) {
+            if (prices[m][h] >= 0) {
+                tale[m] = houses.get(h);
+                tell(m + 1, h, cost + steps[last][h] + prices[m][h]);
             }
         }
     }
@@ -156,6 +187,7 @@ public final class BruteTalesTest {
     }
 
     private void see(String told, int weather) {
+        WashLine other = made();
         List<Integer> last = new ArrayList<>();
         for (int[] each : plain) {
             if (!last.contains(each[mondays - 1])) {
@@ -166,10 +198,15 @@ public final class BruteTalesTest {
         int most = -1;
         for (int x = 0; x < 8; x++) {
             int pairs = 0;
-            for (int one : last) {
-                for (int other : last) {
-                    w.hangs(one, weather, x);
-                    pairs += w.asked() < w.hangs(other, weather, x) ? 1 : 0;
+            int[] lows = new int[last.size()];
+            int[] highs = new int[last.size()];
+            for (int k = 0; k < last.size(); k++) {
+                lows[k] = other.hangs(last.get(k), weather, x);
+                highs[k] = other.asked();
+            }
+            for (int high : highs) {
+                for (int low : lows) {
+                    pairs += high < low ? 1 : 0;
                 }
             }
             if (pairs > most) {

@@ -1,13 +1,16 @@
 /** The program against the Oracle, call by call, on runs that are drawn from a fixed seed. */
 public final class OracleTest {
     private static final int[] ODD = {-1, -2, -9, 100, 41, 121, Integer.MAX_VALUE, Integer.MIN_VALUE};
+    /** An object is used for at most 512 calls; one turn of a run makes no more than these. */
+    private static final int CALLS = 512, TURN = 150;
     private static long seed;
+    private static int used;
 
     private OracleTest() {
     }
 
     public static void main(String[] args) {
-        int runs = args.length > 0 ? Integer.parseInt(args[0]) : 300;
+        int runs = args.length > 0 ? Integer.parseInt(args[0]) : 400;
         long from = args.length > 1 ? Long.parseLong(args[1]) : 1;
         for (long run = from; run < from + runs; run++) {
             seed = run * 7919;
@@ -37,9 +40,10 @@ public final class OracleTest {
         // Searches for TALES are slow in the Oracle: few of them, if there are many HOUSEHOLDS.
         int slow = sorts <= 2 ? 1 : sorts == 3 ? 4 : sorts == 4 ? 12 : 90;
         int calls = 40 + draw(260);
+        used = 0;
         String world = draw(20) == 0 ? "" : drawnWorld(sorts);
         write(run, w, o, world);
-        for (int i = 0; i < calls; i++) {
+        for (int i = 0; i < calls && used + TURN < CALLS; i++) {
             int what = draw(100);
             if (what < 12) {
                 lineMonday(run, w, o);
@@ -65,6 +69,7 @@ public final class OracleTest {
     }
 
     private static void look(long run, String call, long got, long want) {
+        used++;
         Check.due("run " + run + ": " + call, got, want);
     }
 
@@ -126,6 +131,7 @@ public final class OracleTest {
             int low = Math.max(0, o.hangs(house, weather, x));
             int high = Math.max(low, o.asked());
             w.hangs(house, weather, x);
+            used++;
             int n = low + draw(high - low + 1) + (draw(8) == 0 ? 1 : 0);
             if (n > 0 || draw(9) == 0) {
                 look(run, "lay", w.lay(r, x, n), o.lay(r, x, n));
